@@ -282,7 +282,7 @@ public final class NeedleTelegraph {
   }
 
   private static boolean isIn(int bits, int c) {
-    return (bits >> c & 1) == 1;
+    return ((bits >> c) & 1) == 1;
   }
 
   /** Reads an array so that the machine never has an index to refuse. */
@@ -359,12 +359,12 @@ public final class NeedleTelegraph {
   private static final class Rows {
     static int length(int row) {
       int length = 0;
-      while (length < MOST_STITCHES && row >> 2 * length > 0) length++;
+      while (length < MOST_STITCHES && (row >> 2 * length) > 0) length++;
       return length;
     }
 
     private static int stitch(int row, int behindIt) {
-      return row >> 2 * behindIt & 3;
+      return (row >> 2 * behindIt) & 3;
     }
 
     static int with(int row, int stitch) {
@@ -440,7 +440,7 @@ public final class NeedleTelegraph {
 
     /** The letter at a place; 0, which no text holds, behind its end. */
     int get(int place) {
-      return place < length ? at(letters, place) : 0;
+      return place >= 0 && place < length && place < letters.length ? letters[place] : 0;
     }
   }
 
