@@ -1,60 +1,7 @@
 /** Each promise by its number: ordinary calls, the edges that the document names, and wrong calls. */
-public final class PromisesTest {
-  private static final int BAD = -1, NO = -2, FULL = -3, NONE = -4;
-  private static final int LOW = Integer.MIN_VALUE, HIGH = Integer.MAX_VALUE;
-  private static final String NINE_CHAIRS = "c0,1,0;c1,2,0;c2,3,1;c3,4,2;c4,5,3;c0,6,4;c1,7,5;c2,8,6;c3,9,7;";
-  private static final String SIX_MESSAGES = "m0,0,p;m0,0,p;m0,0,p;m0,0,p;m0,0,p;m0,0,p;";
-
-  private static int wrong = 0;
-  private static int promise = 0;
-
-  private static void due(String call, int got, int want) {
-    if (got == want) return;
-    wrong++;
-    System.out.println("promise " + promise + ": " + call + " answered " + got + ", due is " + want);
-  }
-
-  /** A row's number by its letters. */
-  private static int row(String stitches) {
-    int row = 0;
-    for (int i = 0; i < stitches.length(); i++) row = row * 4 + 1 + "pus".indexOf(stitches.charAt(i));
-    return row;
-  }
-
-  private static void write(NeedleTelegraph x, String text) {
-    for (int i = 0; i < text.length(); i++) x.write(text.charAt(i));
-  }
-
-  private static NeedleTelegraph written(String text) {
-    NeedleTelegraph x = new NeedleTelegraph();
-    write(x, text);
-    return x;
-  }
-
-  private static NeedleTelegraph laid(String text) {
-    NeedleTelegraph x = written(text);
-    if (x.lay() < 1) due("lay() of " + text, 0, 1);
-    return x;
-  }
-
-  private static void dueCounts(NeedleTelegraph x, int... wants) {
-    for (int what = 0; what < wants.length; what++) due("count(" + what + ")", x.count(what), wants[what]);
-  }
-
-  private static void dueChair(NeedleTelegraph x, int c, int... wants) {
-    for (int what = 0; what < wants.length; what++) due("chair(" + c + ", " + what + ")", x.chair(c, what), wants[what]);
-  }
-
-  private static void dueMessage(NeedleTelegraph x, int m, int... wants) {
-    for (int what = 0; what < wants.length; what++) due("message(" + m + ", " + what + ")", x.message(m, what), wants[what]);
-  }
-
-  private static void dueFault(String text, int want) {
-    due("fault() of " + text, written(text).fault(), want);
-  }
-
+public final class PromisesTest extends Checks {
   private static void aNewObject() {
-    promise = 1;
+    about("promise 1");
     NeedleTelegraph x = new NeedleTelegraph();
     dueCounts(x, 8, 4, 0, 1, 0, 0, 0, 0, 0, 0);
     dueChair(x, 0, 0, 3, 0, 0, 0);
@@ -76,7 +23,7 @@ public final class PromisesTest {
   }
 
   private static void writes() {
-    promise = 2;
+    about("promise 2");
     NeedleTelegraph x = new NeedleTelegraph();
     due("write(32)", x.write(32), 1);
     due("write(126)", x.write(126), 2);
@@ -94,7 +41,7 @@ public final class PromisesTest {
   }
 
   private static void wipes() {
-    promise = 3;
+    about("promise 3");
     NeedleTelegraph x = new NeedleTelegraph();
     due("wipe() of an empty text", x.wipe(), 0);
     write(x, "c0,1,0;x");
@@ -108,7 +55,7 @@ public final class PromisesTest {
   }
 
   private static void faultsOfChairs() {
-    promise = 4;
+    about("promise 4");
     dueFault("", NONE);
     dueFault("c0,1,0;", NONE);
     dueFault("c00,01,00;", NONE);
@@ -137,35 +84,34 @@ public final class PromisesTest {
   }
 
   private static void faultsOfMessagesAndIndoors() {
-    String one = "c0,1,0;";
-    dueFault(one + "m0,0,p;m0,99,ppuussps;m00,07,u;", NONE);
-    dueFault("m0,0,p;" + one, 0);
-    dueFault(one + "m1,0,p;", 7);
-    dueFault(one + "m0,100,p;", 7);
-    dueFault(one + "m0,0,;", 7);
-    dueFault(one + "m0,0;", 7);
-    dueFault(one + "m0,0,pppppppps;", 7);
-    dueFault(one + "m0,0,pxp;", 7);
-    dueFault(one + "m0,0,P;", 7);
-    dueFault(one + "m0,0,p", 7);
-    dueFault(one + "m,0,p;", 7);
-    dueFault(one + "m0,,p;", 7);
-    dueFault(one + SIX_MESSAGES, NONE);
-    dueFault(one + SIX_MESSAGES + "m0,0,p;", 7 + 42);
-    dueFault(one + "i0;i00;i0;", NONE);
-    dueFault("i0;" + one, 0);
-    dueFault(one + "i1;", 7);
-    dueFault(one + "i;", 7);
-    dueFault(one + "i0", 7);
-    dueFault(one + "i000;", 7);
-    dueFault(one + "i0,0;", 7);
+    dueFault(ONE + "m0,0,p;m0,99,ppuussps;m00,07,u;", NONE);
+    dueFault("m0,0,p;" + ONE, 0);
+    dueFault(ONE + "m1,0,p;", 7);
+    dueFault(ONE + "m0,100,p;", 7);
+    dueFault(ONE + "m0,0,;", 7);
+    dueFault(ONE + "m0,0;", 7);
+    dueFault(ONE + "m0,0,pppppppps;", 7);
+    dueFault(ONE + "m0,0,pxp;", 7);
+    dueFault(ONE + "m0,0,P;", 7);
+    dueFault(ONE + "m0,0,p", 7);
+    dueFault(ONE + "m,0,p;", 7);
+    dueFault(ONE + "m0,,p;", 7);
+    dueFault(ONE + SIX_MESSAGES, NONE);
+    dueFault(ONE + SIX_MESSAGES + "m0,0,p;", 7 + 42);
+    dueFault(ONE + "i0;i00;i0;", NONE);
+    dueFault("i0;" + ONE, 0);
+    dueFault(ONE + "i1;", 7);
+    dueFault(ONE + "i;", 7);
+    dueFault(ONE + "i0", 7);
+    dueFault(ONE + "i000;", 7);
+    dueFault(ONE + "i0,0;", 7);
     NeedleTelegraph x = written("x");
     x.fault();
     dueCounts(x, 8, 4, 0, 1, 0, 0, 0, 0, 0, 1);
   }
 
   private static void lays() {
-    promise = 5;
+    about("promise 5");
     NeedleTelegraph x = new NeedleTelegraph();
     x.pass(2);
     x.see(0, 1, 1);
@@ -193,7 +139,7 @@ public final class PromisesTest {
   }
 
   private static void tellsChairs() {
-    promise = 6;
+    about("promise 6");
     NeedleTelegraph x = laid("c4,20,0;c2,7,0;i1;m1,0,p;m1,0,u;m0,9,s;m0,0,s;");
     dueChair(x, 0, 4, 20, 0, 0, 0);
     dueChair(x, 1, 2, 7, 0, 1, 0);
@@ -209,7 +155,7 @@ public final class PromisesTest {
   }
 
   private static void tellsMessages() {
-    promise = 7;
+    about("promise 7");
     NeedleTelegraph x = laid("c0,2,0;c2,3,0;m1,1,pu;m0,0,s;");
     dueMessage(x, 0, 1, 0, 1, 6, 0, NONE);
     dueMessage(x, 1, 0, 0, 0, 3, 0, NONE);
@@ -238,7 +184,7 @@ public final class PromisesTest {
   }
 
   private static void knits() {
-    promise = 8;
+    about("promise 8");
     NeedleTelegraph x = laid("c0,1,0;c1,1,0;c2,1,0;c3,1,0;c4,1,0;");
     due("knit(0, 27)", x.knit(0, 27), 27);
     due("knit(1, 65535)", x.knit(1, 65535), 4095);
@@ -255,7 +201,7 @@ public final class PromisesTest {
   }
 
   private static void passes() {
-    promise = 9;
+    about("promise 9");
     NeedleTelegraph x = laid("c0,2,0;c1,3,0;c0,1,1;m2,0,pus;m0,2,s;m0,0,p;i1;");
     due("pass(1)", x.pass(1), 0);
     dueMessage(x, 0, 0, 1, 1, 27, 0, NONE);
@@ -281,7 +227,7 @@ public final class PromisesTest {
   }
 
   private static void rains() {
-    promise = 10;
+    about("promise 10");
     NeedleTelegraph x = new NeedleTelegraph();
     due("rain(3)", x.rain(3), 0);
     due("chair(3, 3)", x.chair(3, 3), 0);
@@ -296,7 +242,7 @@ public final class PromisesTest {
   }
 
   private static void sends() {
-    promise = 11;
+    about("promise 11");
     NeedleTelegraph x = new NeedleTelegraph();
     x.pass(3);
     due("send(7, 65535)", x.send(7, 65535), 4);
@@ -316,7 +262,7 @@ public final class PromisesTest {
   }
 
   private static void alters() {
-    promise = 12;
+    about("promise 12");
     NeedleTelegraph x = laid("c3,2,0;m0,0,pu;m0,5,u;");
     due("alter(0, 1), not begun yet", x.alter(0, 1), NO);
     x.pass(1);
@@ -338,7 +284,7 @@ public final class PromisesTest {
   }
 
   private static void undoes() {
-    promise = 13;
+    about("promise 13");
     NeedleTelegraph x = new NeedleTelegraph();
     due("undo() of nothing", x.undo(), NO);
     x.pass(3);
@@ -380,7 +326,7 @@ public final class PromisesTest {
   }
 
   private static void comings() {
-    promise = 14;
+    about("promise 14");
     NeedleTelegraph x = new NeedleTelegraph();
     due("comes(0, 27, 0)", x.comes(0, 27, 0), 27);
     due("comes(0, 27, 1)", x.comes(0, 27, 1), 3);
@@ -400,7 +346,7 @@ public final class PromisesTest {
   }
 
   private static void outs() {
-    promise = 15;
+    about("promise 15");
     NeedleTelegraph x = laid("c2,3,0;c3,2,0;c0,1,2;m1,4,p;m0,0,p;m1,0,p;m2,0,u;i1;");
     due("out(0, 0), held up", x.out(0, 0), NONE);
     due("out(0, 1), held up", x.out(0, 1), NONE);
@@ -421,8 +367,7 @@ public final class PromisesTest {
     for (int m : none) due("out(" + m + ", 0)", x.out(m, 0), BAD);
     int[] noWhat = {-1, 2, LOW, HIGH};
     for (int what : noWhat) due("out(0, " + what + ")", x.out(0, what), BAD);
-    String slow = "c0,20,0;c0,20,0;c0,20,1;c0,20,2;c0,20,3;c0,20,4;c0,20,5;c0,20,6;";
-    x = laid(slow + "m7,80,p;m7,81,p;");
+    x = laid(SLOW + "m7,80,p;m7,81,p;");
     due("out(0, 0) at the last", x.out(0, 0), 240);
     due("out(1, 0), a minute too late", x.out(1, 0), NONE);
     due("out(1, 1), a minute too late", x.out(1, 1), NONE);
@@ -431,7 +376,7 @@ public final class PromisesTest {
   }
 
   private static void codes() {
-    promise = 16;
+    about("promise 16");
     NeedleTelegraph x = laid("c0,1,0;c1,1,0;c4,1,0;c2,1,0;c2,1,3;");
     due("code(0, 1)", x.code(0, 1), 1);
     due("code(0, 85)", x.code(0, 85), 85);
@@ -453,7 +398,7 @@ public final class PromisesTest {
   }
 
   private static void coulds() {
-    promise = 17;
+    about("promise 17");
     NeedleTelegraph x = laid("c0,1,0;c1,1,0;c4,1,0;c4,1,1;");
     due("could(0, 1)", x.could(0, 1), 1);
     due("could(0, 341), five stitches", x.could(0, 341), 1);
@@ -472,7 +417,7 @@ public final class PromisesTest {
   }
 
   private static void brings() {
-    promise = 18;
+    about("promise 18");
     NeedleTelegraph x = laid("c0,2,0;c0,2,0;c0,2,1;c0,2,0;c0,1,4;m1,0,p;m2,0,p;i3;i4;");
     due("bring(0), nobody", x.bring(0), 0);
     due("bring(1), nobody", x.bring(1), 0);
@@ -489,8 +434,7 @@ public final class PromisesTest {
     due("count(3), nobody came out for it", x.count(3), 5);
     int[] noWhat = {-1, 2, LOW, HIGH};
     for (int what : noWhat) due("bring(" + what + ")", x.bring(what), BAD);
-    String slow = "c0,20,0;c0,20,0;c0,20,1;c0,20,2;c0,20,3;c0,20,4;c0,20,5;c0,20,6;";
-    x = laid(slow + "m7,81,p;i5;");
+    x = laid(SLOW + "m7,81,p;i5;");
     due("bring(0), too late", x.bring(0), NONE);
     due("bring(1), too late", x.bring(1), NONE);
     due("bring(2), too late", x.bring(2), BAD);
@@ -507,7 +451,7 @@ public final class PromisesTest {
   }
 
   private static void meets() {
-    promise = 19;
+    about("promise 19");
     NeedleTelegraph x = laid("c0,5,0;c0,3,0;c0,1,1;m0,4,p;m1,0,p;m2,2,p;m0,90,p;i1;");
     due("meet(0, 1), held up", x.meet(0, 1), NONE);
     due("meet(1, 2), at her who is indoors", x.meet(1, 2), 3);
@@ -527,14 +471,13 @@ public final class PromisesTest {
     }
     due("meet(0, 0)", x.meet(0, 0), BAD);
     due("meet(9, 9)", x.meet(9, 9), BAD);
-    String slow = "c0,20,0;c0,20,0;c0,20,1;c0,20,2;c0,20,3;c0,20,4;c0,20,5;c0,20,6;c0,20,7;";
-    x = laid(slow + "m0,0,p;m8,80,p;m8,81,p;i0;");
+    x = laid(SLOW + "c0,20,7;" + "m0,0,p;m8,80,p;m8,81,p;i0;");
     due("meet(0, 1) at the last", x.meet(0, 1), 240);
     due("meet(0, 2), a minute too late", x.meet(0, 2), NONE);
   }
 
   private static void hanging() {
-    promise = 20;
+    about("promise 20");
     NeedleTelegraph x = new NeedleTelegraph();
     due("hangs(0)", x.hangs(0), 0);
     due("hangs(1)", x.hangs(1), 7);
@@ -552,7 +495,7 @@ public final class PromisesTest {
   }
 
   private static void seeing() {
-    promise = 21;
+    about("promise 21");
     NeedleTelegraph x = new NeedleTelegraph();
     int[] none = {-1, 8, LOW, HIGH};
     for (int c : none) due("see(" + c + ", 1, 1)", x.see(c, 1, 1), BAD);
@@ -572,7 +515,7 @@ public final class PromisesTest {
   }
 
   private static void forgets() {
-    promise = 22;
+    about("promise 22");
     NeedleTelegraph x = new NeedleTelegraph();
     due("forget() of nothing", x.forget(), 0);
     x.see(0, 1, 2);
@@ -586,7 +529,7 @@ public final class PromisesTest {
   }
 
   private static void kindsOf() {
-    promise = 23;
+    about("promise 23");
     NeedleTelegraph x = laid("c0,1,0;c1,1,0;c2,1,1;");
     due("kinds(0), nothing seen", x.kinds(0), 31);
     x.see(0, 1, 1);
@@ -618,7 +561,7 @@ public final class PromisesTest {
   }
 
   private static void lying() {
-    promise = 24;
+    about("promise 24");
     NeedleTelegraph x = laid("c0,1,0;c1,1,0;c0,1,2;");
     due("lies(), nothing seen", x.lies(), 512 + 7);
     x.see(0, 27, 27);
@@ -638,13 +581,8 @@ public final class PromisesTest {
     due("lies(), by nobody", x.lies(), 0);
   }
 
-  private static void dueSlips(NeedleTelegraph x, int c, int row, int tenths, int above, int below) {
-    due("slips(" + c + ", " + row + ", " + tenths + ", 0)", x.slips(c, row, tenths, 0), above);
-    due("slips(" + c + ", " + row + ", " + tenths + ", 1)", x.slips(c, row, tenths, 1), below);
-  }
-
   private static void slipping() {
-    promise = 25;
+    about("promise 25");
     NeedleTelegraph x = laid("c0,1,0;c2,1,0;c1,1,2;c2,1,3;c4,1,4;c1,1,4;");
     dueSlips(x, 0, 6, 0, 1, 1);
     dueSlips(x, 0, 6, 1, 9, 10);
@@ -678,7 +616,7 @@ public final class PromisesTest {
   }
 
   private static void evenings() {
-    promise = 26;
+    about("promise 26");
     NeedleTelegraph x = laid("c0,1,0;m0,0,pu;");
     // By z = 0 the draw ahead of the first minute is 1: a message of two plain ones is sent.
     due("evening(0, 1, 0)", x.evening(0, 1, 0), 2);
@@ -716,7 +654,7 @@ public final class PromisesTest {
   }
 
   private static void keeps() {
-    promise = 27;
+    about("promise 27");
     NeedleTelegraph x = new NeedleTelegraph();
     x.pass(1);
     due("keep()", x.keep(), 1);
@@ -729,7 +667,7 @@ public final class PromisesTest {
   }
 
   private static void goesBack() {
-    promise = 28;
+    about("promise 28");
     NeedleTelegraph x = new NeedleTelegraph();
     due("back() to nothing", x.back(), NO);
     x.pass(1);
@@ -759,7 +697,7 @@ public final class PromisesTest {
   }
 
   private static void counts() {
-    promise = 29;
+    about("promise 29");
     NeedleTelegraph x = laid("c0,2,0;c0,1,1;c0,4,1;m0,0,p;m1,0,p;m2,9,p;m2,0,p;i0;");
     x.pass(3);
     x.rain(1);
@@ -803,7 +741,6 @@ public final class PromisesTest {
     keeps();
     goesBack();
     counts();
-    System.out.println(wrong == 0 ? "all answers are as due" : wrong + " answers are not as due");
-    if (wrong != 0) System.exit(1);
+    finish();
   }
 }
