@@ -20,8 +20,8 @@ public final class NeedleTelegraph {
 
   private static final int TEN = 10, IS_SO_AS_IT_IS = 512, MOST_Z = 9999, ROWS_MODULO = 9973;
 
-  private final Letters letters = new Letters();
-  private final Reader reader = new Reader(letters);
+  private final Reader reader = new Reader();
+  private final Letters letters = reader.letters;
   private final Valley valley = new Valley();
   private final Moment now = new Moment();
   private final Moment supposed = new Moment();
@@ -229,7 +229,7 @@ public final class NeedleTelegraph {
 
   public int slips(int c, int row, int x, int part) {
     if (!valley.has(c) || !Rows.isRow(row) || !isBetween(x, 0, TEN) || !isBetween(part, 0, 1)) return BAD;
-    long above = tenthsThatCome(c, row, x, valley.rowAtSea(c, row), 0);
+    long above = tenthsThatCome(valley, c, row, x, valley.rowAtSea(c, row), 0);
     long below = 1;
     for (int i = 0; i < valley.chairsToSea(c); i++) below *= TEN;
     long divisor = greatestDivisor(above, below);
@@ -312,15 +312,15 @@ public final class NeedleTelegraph {
   }
 
   /** The chance that the row comes as due from chair c on, times ten for each chair on its way. */
-  private long tenthsThatCome(int c, int row, int x, int due, int depth) {
+  private static long tenthsThatCome(Valley valley, int c, int row, int x, int due, int depth) {
     if (depth >= MOST_CHAIRS) return 0;
     int kind = valley.kindOf(c);
     int whole = Rows.knitted(kind, row);
     int slipped = Rows.knitted(kind, Rows.withoutFirst(row));
     if (valley.isAtSea(c)) return (whole == due ? TEN - x : 0) + (slipped == due ? x : 0);
     int next = valley.nextOf(c);
-    return (TEN - x) * tenthsThatCome(next, whole, x, due, depth + 1)
-        + x * tenthsThatCome(next, slipped, x, due, depth + 1);
+    return (TEN - x) * tenthsThatCome(valley, next, whole, x, due, depth + 1)
+        + x * tenthsThatCome(valley, next, slipped, x, due, depth + 1);
   }
 
   private static long greatestDivisor(long a, long b) {
@@ -446,14 +446,10 @@ public final class NeedleTelegraph {
 
   /** Reads the text into a valley and a moment of its own, so that what is laid stays as it is. */
   private static final class Reader {
+    final Letters letters = new Letters();
     final Valley valley = new Valley();
     final Moment moment = new Moment();
-    private final Letters letters;
     private int place;
-
-    Reader(Letters letters) {
-      this.letters = letters;
-    }
 
     /** The place of the first letter of the first item that is not so, or NONE. */
     int read() {
